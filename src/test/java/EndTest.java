@@ -56,6 +56,10 @@ public final class EndTest {
         RiverSuit y = Told.suit("river 0 0 0;river 0 0 0;river 0 0 0 0;river 0 0 0 1;river 0 0 0 unless 2 3;said 4;");
         CHECK.due("foil(0) by two", y.foil(0), 2);
         CHECK.due("foil(1): the least", y.foil(1), 0b00101);
+        RiverSuit z = Told.suit("river 0 0 0;river 0 0 0 0;river 0 0 0 1;river 0 0 0 2;river 0 0 0 3;river 0 0 0 4;"
+                + "river 0 0 0 5;river 0 0 0 6;");
+        CHECK.due("few(0) by all eight", z.few(0), 8);
+        CHECK.due("few(1) by all eight", z.few(1), 255);
         CHECK.due("foil(0) of none", new RiverSuit().foil(0), RiverSuit.NONE);
         CHECK.due("foil(1) of none", new RiverSuit().foil(1), RiverSuit.NONE);
         CHECK.due("foil(-1) of none", new RiverSuit().foil(-1), RiverSuit.BAD);
@@ -207,6 +211,11 @@ public final class EndTest {
         shares("river 0 0 0;river 0 0 0;end 0;", 1, 1, 0, 1);
         shares("river 0 0 0;river 0 0 0 0;river 0 0 0 1;river 0 0 0 2;river 0 0 0 3;river 0 0 0 4;"
                 + "river 0 0 0 5;river 0 0 0 6;", 1, 8, 1, 8, 1, 8, 1, 8, 1, 8, 1, 8, 1, 8, 1, 8);
+        // The end falls by k of those before it, n in all: it stands by itself in one order of k + 1.
+        shares("river 0 0 0;river 0 0 0;river 0 0 0;river 0 0 0;river 0 0 0 unless 0 1 2 3;",
+                -1, 20, -1, 20, -1, 20, -1, 20, 1, 5);
+        shares("river 0 0 0;river 0 0 0;river 0 0 0;river 0 0 0;river 0 0 0;river 0 0 0;river 0 0 0;"
+                + "river 0 0 0 unless 0 1 2;", -1, 12, -1, 12, -1, 12, 0, 1, 0, 1, 0, 1, 0, 1, 1, 4);
         RiverSuit x = Told.suit(THREE);
         CHECK.due("share(-1, 0)", x.share(-1, 0), RiverSuit.BAD);
         CHECK.due("share(3, 0)", x.share(3, 0), RiverSuit.BAD);

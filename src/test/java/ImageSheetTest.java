@@ -46,6 +46,7 @@ public final class ImageSheetTest {
         CHECK.due("plan as kept", x.plan(0), 2);
         CHECK.due("plan as kept", x.plan(1), 1);
         CHECK.due("what was seen as kept", x.fits(0), 1);
+        CHECK.due("the sets seen as kept", seenAfterBack(), 1);
         CHECK.due("back(1)", x.back(1), 7);
         told(x, 7, 1, 2, 1, 2);
         CHECK.due("leans as kept then", x.claim(1, 4), 0);
@@ -54,6 +55,20 @@ public final class ImageSheetTest {
         CHECK.due("plan as kept then", x.plan(0), 0);
         CHECK.due("an image stays", x.back(0), 4);
         CHECK.due("count(3)", x.count(3), 2);
+    }
+
+    /** Three sets fit by what is seen behind the image, one by what the image kept. */
+    private static int seenAfterBack() {
+        RiverSuit x = Told.suit("river 0 0 0;river 0 0 0;river 0 0 0;");
+        x.see(0b110, false);
+        x.see(0b101, true);
+        x.keep(0);
+        x.forget(0);
+        x.see(0b111, false);
+        x.see(0b100, true);
+        CHECK.due("fits(0) by others", x.fits(0), 3);
+        x.back(0);
+        return x.fits(0);
     }
 
     private static void change(RiverSuit x) {

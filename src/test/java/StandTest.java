@@ -71,6 +71,10 @@ public final class StandTest {
         CHECK.due("reply(-1, 0)", x.reply(-1, 0), RiverSuit.BAD);
         CHECK.due("reply(5, 0)", x.reply(5, 0), RiverSuit.BAD);
         CHECK.due("rule(3) stays", x.rule(3), 0b10101);
+        RiverSuit y = Told.suit("river 0 0 0;ferry 0 0 0;river 0 0 0;river 0 0 0 unless 0 1 2;said 3;");
+        CHECK.due("reply(3, 0) by three", y.reply(3, 0), 0b0111);
+        RiverSuit z = Told.suit("river 0 0 0;ferry 0 0 0;river 0 0 0 unless 0 1;ferry 0 0 0 unless 2;said 2;said 3;");
+        CHECK.due("reply(3, 1) by two", z.reply(3, 1), 0b0011);
     }
 
     private static void promise22Ever() {
@@ -82,6 +86,10 @@ public final class StandTest {
         RiverSuit y = Told.suit("river 0 0 0;river 0 0 0;river 0 0 0 0;river 0 0 0 2 unless 0;ferry 0 0 0 3;");
         CHECK.due("ever(0): 3 leans on what leans on what it falls by", y.ever(0), 0b11000);
         CHECK.due("ever(1)", y.ever(1), 0b00011);
+        RiverSuit z = Told.suit("river 0 0 0;river 0 0 0;river 0 0 0;river 0 0 0;"
+                + "river 0 0 0;river 0 0 0;river 0 0 0;river 0 0 0 0;");
+        CHECK.due("ever(0) of eight", z.ever(0), 0);
+        CHECK.due("ever(1) of eight", z.ever(1), 0b01111111);
         CHECK.due("ever(0) of none", new RiverSuit().ever(0), 0);
         CHECK.due("ever(1) of none", new RiverSuit().ever(1), 0);
     }

@@ -92,6 +92,7 @@ public final class TextTest {
         x.keep(0);
         x.keep(1);
         x.sheet(0, 0, 3);
+        CHECK.due("a text in place of another", Told.tell(x, "river 0 0 0;river 0 0 0 unless 0;"), 2);
         CHECK.due("a text in place of another", Told.tell(x, "ferry 1 2 3;bridge 0 0 0;"), 2);
         CHECK.due("rule(0)", x.rule(0), 2);
         CHECK.due("rule(1): the last one told", x.rule(1), 1);
@@ -151,6 +152,8 @@ public final class TextTest {
         taken("rivers 0 0 0;", -10, 2);
         taken("riverbridge 0 0 0;", -10, 2);
         taken("xiver 0 0 0;", -10, 2);
+        taken("az", -10, 2);
+        taken("za", -10, 2);
         taken("unless", -10, 2);
         taken("5", -10, 2);
         taken(" ;", -11, 2);
@@ -255,6 +258,7 @@ public final class TextTest {
         for (int what = 0; what < due.length; what++) {
             CHECK.due("rule(" + what + ")", x.rule(what), due[what]);
         }
+        CHECK.due("rule(1) of one claim", Told.suit("ferry 0 0 0;").rule(1), 0);
         CHECK.due("rule(-1)", x.rule(-1), RiverSuit.BAD);
         CHECK.due("rule(6)", x.rule(6), RiverSuit.BAD);
     }
