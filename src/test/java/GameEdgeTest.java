@@ -183,6 +183,11 @@ public final class GameEdgeTest {
         game("bridge 5 7 1;bridge 5 7 1;" + rest, upTo(8) & ~upTo(5));
         game("bridge 5 5 1;bridge 7 7 1;" + rest, upTo(8) & ~upTo(5));
         game("bridge 9 9 1;bridge 7 7 1;" + rest, 1 << 8);
+        // What the other can say on the very next day counts: 1 would be felled by 0, 2 is not.
+        says("bridge 9 9 1;river 8 8 1 unless 0;river 8 8 1;ferry 0 9 0 unless 1 2;ferry 0 9 0 unless 3;"
+                + "said 3;said 4;day 8;", 2);
+        // So for the bridge on day 7: of its 1 and 2 the river's 0 fells the one on day 8.
+        says("river 8 8 1;bridge 7 7 1 unless 0;bridge 7 7 1;ferry 0 9 0 unless 1 2;said 3;day 7;", 2);
     }
 
     /** 'DAYS (0 to 9) on which THE GAME could begin (with what is SAID now) .. (bits).' */

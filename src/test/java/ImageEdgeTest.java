@@ -13,6 +13,7 @@ public final class ImageEdgeTest {
         promise37ImagesZeroAndOne();
         promise37ThereIsNone();
         promise37EachThatIsKept();
+        promise37EachSetThatWasSeen();
         promise37NothingElse();
         promise37TheImageStays();
         promise37OfNoneAndOfAll();
@@ -110,6 +111,37 @@ public final class ImageEdgeTest {
         x.leans(1, 0, false);
         CHECK.due("how many were seen", x.count(2), 1);
         CHECK.due("what was seen", x.fits(2), 1);
+    }
+
+    /** Of six that were seen each set and each answer is kept: what fits tells of them all. */
+    private static void promise37EachSetThatWasSeen() {
+        RiverSuit x = Told.suit(Some.alike(7));
+        for (int i = 0; i < 6; i++) {
+            x.see(0b1000000 | 1 << i, i % 2 == 0);
+        }
+        x.keep(0);
+        x.forget(0);
+        for (int i = 5; i >= 0; i--) {
+            x.see(0b1000000 | 1 << i, i % 2 == 0);
+        }
+        x.keep(1);
+        x.forget(0);
+        for (int i = 0; i < 6; i++) {
+            x.see(0b1000000, true);
+        }
+        for (int k = 0; k < 2; k++) {
+            x.back(k);
+            CHECK.due("six were seen in image " + k, x.count(2), 6);
+            for (int n = 5; n >= 0; n--) {
+                int fell = 0;
+                for (int i = 0; i <= n; i++) {
+                    int c = k == 0 ? i : 5 - i;
+                    fell |= c % 2 == 1 ? 1 << c : 0;
+                }
+                CHECK.due("fits(2) by the first " + (n + 1) + " of image " + k, x.fits(2), fell);
+                x.forget(n);
+            }
+        }
     }
 
     private static RiverSuit kept() {

@@ -206,6 +206,11 @@ public final class SheetEdgeTest {
             CHECK.due("read(0, 0, " + f + ", 0)", x.read(0, 0, f, 0), 0);
             CHECK.due("torn() of none", x.torn(), 0);
         }
+        // The choice that NOTES.md tells of: where nothing is read, the machine meets neither NULL nor CAST.
+        CHECK.due("read of none of nothing", x.read(1, 0, 0, 0), 0);
+        CHECK.due("torn() of it", x.torn(), 0);
+        CHECK.due("read of none as of another lane", x.read(0, 1, 0, 0), 0);
+        CHECK.due("torn() of it", x.torn(), 0);
         RiverSuit y = Told.suit(Some.alike(8));
         y.sheet(0, 0, 8);
         for (int i = 0; i < 8; i++) {
@@ -372,6 +377,15 @@ public final class SheetEdgeTest {
         y.lay(0, 0, 1);
         CHECK.due("how many came, not how many stand", y.read(0, 0, 0, 2), 2);
         CHECK.due("rule(4)", y.rule(4), 1);
+        RiverSuit z = Told.suit("river 0 9 1;river 0 9 1 0;river 0 9 1 1;");
+        z.sheet(0, 0, 2);
+        z.lay(0, 0, 2);
+        z.lay(0, 1, 1);
+        CHECK.due("say() answers 0 and refuses nothing: one came", z.read(0, 0, 0, 1), 1);
+        CHECK.due("none stands", z.rule(4), 0);
+        CHECK.due("another came", z.read(0, 0, 1, 1), 1);
+        CHECK.due("rule(3)", z.rule(3), 0b110);
+        CHECK.due("torn()", z.torn(), 0);
     }
 
     /** 'The FAULT of the latest read() that came to an end; 0.' */
