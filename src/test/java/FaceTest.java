@@ -64,8 +64,8 @@ public final class FaceTest {
             int is = f.getModifiers();
             if (!Modifier.isPrivate(is)) {
                 seen.add(f.getName());
-                check.isTrue(f + " is a constant",
-                        Modifier.isPublic(is) && Modifier.isStatic(is) && Modifier.isFinal(is) && f.getType() == int.class);
+                check.isTrue(f + " is a constant", Modifier.isPublic(is) && Modifier.isStatic(is)
+                        && Modifier.isFinal(is) && f.getType() == int.class);
             }
             check.isTrue(f + " is final if static", !Modifier.isStatic(is) || Modifier.isFinal(is));
         }

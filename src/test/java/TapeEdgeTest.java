@@ -1,7 +1,7 @@
 import java.util.ArrayList;
 import java.util.List;
 
-/** The edges of promises 1 to 5: a new object, the tape's bytes and its length, what a text does when taken, refused. */
+/** The edges of promises 1 to 5: a new object, the tape's bytes and its length, what a text does, taken or refused. */
 public final class TapeEdgeTest {
     private static final Check CHECK = new Check("TapeEdgeTest");
     private static final Twin NONE = new Twin(CHECK, "no claims", Some::none);

@@ -87,7 +87,7 @@ public final class ToldEdgeTest {
         }
     }
 
-    /** '6 whether it STANDS (1, 0)': section 2, 'if it is of the set, all on which it LEANS STAND, none by which ..'. */
+    /** '6 whether it STANDS (1, 0)': 'if it is of the set, all on which it LEANS STAND, none by which ..'. */
     private static void promise7StandsOrNot() {
         RiverSuit x = Told.suit("river 0 9 0;river 0 9 0;river 0 9 0 0 1;river 0 9 0 unless 0 1;");
         CHECK.due("not said: does not stand", x.claim(3, 6), 0);
